@@ -115,15 +115,11 @@ public final class LinearHistories {
     }
 
     public int possibilities(int object) throws IllegalArgumentException {
-        Subject subject = subjectOf(object);
-        subject.learn(scratch);
-        return subject.possibilityCount;
+        return learnedSubject(object).possibilityCount;
     }
 
     public int judge(int object) throws IllegalArgumentException {
-        Subject subject = subjectOf(object);
-        subject.learn(scratch);
-        return subject.judgement;
+        return learnedSubject(object).judgement;
     }
 
     public int judgeOwn(int object) throws IllegalArgumentException {
@@ -133,15 +129,11 @@ public final class LinearHistories {
     }
 
     public long ways(int object) throws IllegalArgumentException {
-        Subject subject = subjectOf(object);
-        subject.learn(scratch);
-        return subject.wayCount;
+        return learnedSubject(object).wayCount;
     }
 
     public int lasts(int object) throws IllegalArgumentException {
-        Subject subject = subjectOf(object);
-        subject.learn(scratch);
-        return subject.lastCount;
+        return learnedSubject(object).lastCount;
     }
 
     public int broken(int object) throws IllegalArgumentException {
@@ -216,6 +208,12 @@ public final class LinearHistories {
             throw new IllegalArgumentException("no such object");
         }
         return subjects[object];
+    }
+
+    private Subject learnedSubject(int object) throws IllegalArgumentException {
+        Subject subject = subjectOf(object);
+        subject.learn(scratch);
+        return subject;
     }
 
     /**
@@ -417,7 +415,11 @@ public final class LinearHistories {
 
         /** What there was behind an earlier event never changes, so it is looked at once. */
         void learnBreak(Space scratch) {
-            for (int i = backsLearned; i < backs && brokenAt == NONE; i++) {
+            learn(scratch);
+            // A way can be cut off behind what had come back at an event, so that an object that
+            // is linear now has been so behind every event.
+            int from = judgement == 1 ? backs : backsLearned;
+            for (int i = from; i < backs && brokenAt == NONE; i++) {
                 boolean few = scratch.explore(this, backCounts[i], backSets[i], false);
                 if (few && scratch.waysToEnds() == 0) {
                     brokenAt = backEvents[i];
@@ -434,8 +436,12 @@ public final class LinearHistories {
      * for each key, the highest of them telling that there is a value.
      */
     private static final class State {
+        private static final int READ = 0, WRITE = 1, SWAP = 2, COMPARE = 3;
+        private static final int PUT = 0, TAKE = 1;
+        private static final int INSERT = 0, REMOVE = 1;
+        private static final int GET = 1;
         private static final int NAME_BITS = 4, NAME_MASK = 15;
-        private static final int KEY_BITS = 5, KEY_MASK = 31, HAS_VALUE = 16, KEYS_MASK = 7;
+        private static final int KEY_MASK = 7, VALUE_BITS = 5, VALUE_MASK = 31, HAS_VALUE = 16;
 
         long word;
         int size;
@@ -466,15 +472,15 @@ public final class LinearHistories {
         private int changeRegister(Operation operation) {
             int value = (int) word;
             switch (operation.code) {
-                case 0:
+                case READ:
                     return value;
-                case 1:
+                case WRITE:
                     word = operation.a;
                     return 0;
-                case 2:
+                case SWAP:
                     word = operation.a;
                     return value;
-                case 3:
+                case COMPARE:
                     if (value != operation.a) {
                         return 0;
                     }
@@ -488,10 +494,10 @@ public final class LinearHistories {
 
         private int changeSequence(int kind, Operation operation, Operation[] all) {
             switch (operation.code) {
-                case 0:
+                case PUT:
                     insertAt(kind == HEAP ? placeInHeap(operation.a, all) : size, operation.name);
                     return 0;
-                case 1:
+                case TAKE:
                     if (size <= 0) {
                         return NOTHING;
                     }
@@ -534,10 +540,10 @@ public final class LinearHistories {
             long bit = 1L << operation.name;
             boolean there = (word & bit) != 0;
             switch (operation.code) {
-                case 0:
+                case INSERT:
                     word |= bit;
                     return there ? 0 : 1;
-                case 1:
+                case REMOVE:
                     word &= ~bit;
                     return there ? 1 : 0;
                 default:
@@ -546,12 +552,12 @@ public final class LinearHistories {
         }
 
         private int changeMap(Operation operation, Operation[] all) {
-            int shift = KEY_BITS * (operation.a & KEYS_MASK);
-            int held = (int) (word >>> shift) & KEY_MASK;
-            if (operation.code != 1) {
-                word &= ~((long) KEY_MASK << shift);
+            int shift = VALUE_BITS * (operation.a & KEY_MASK);
+            int held = (int) (word >>> shift) & VALUE_MASK;
+            if (operation.code != GET) {
+                word &= ~((long) VALUE_MASK << shift);
             }
-            if (operation.code == 0 && operation.b != NOTHING) {
+            if (operation.code == PUT && operation.b != NOTHING) {
                 word |= (long) (HAS_VALUE | operation.name) << shift;
             }
             return (held & HAS_VALUE) == 0 ? NOTHING : all[held & NAME_MASK].b;
@@ -574,24 +580,17 @@ public final class LinearHistories {
             Arrays.fill(chains, NONE);
         }
 
-        int numberOf(int key, long word) {
-            int at = chains[chainOf(key, word)];
-            for (int left = count; left > 0 && at >= 0; left--) {
-                if (keys[at] == key && words[at] == word) {
-                    return at;
-                }
-                at = links[at];
-            }
-            return NONE;
+        int find(int key, long word) {
+            return findIn(chainOf(key, word), key, word);
         }
 
         /** The pair's number, a new one if need be; NONE when there is no more room. */
         int keep(int key, long word) {
-            int known = numberOf(key, word);
+            int chain = chainOf(key, word);
+            int known = findIn(chain, key, word);
             if (known != NONE || count >= MOST_POSSIBILITIES) {
                 return known;
             }
-            int chain = chainOf(key, word);
             keys[count] = key;
             words[count] = word;
             links[count] = chains[chain];
@@ -602,6 +601,17 @@ public final class LinearHistories {
 
         private int chainOf(int key, long word) {
             return (int) ((word * SPREAD + key * SPREAD_KEYS) >>> (64 - CHAINS_BITS));
+        }
+
+        private int findIn(int chain, int key, long word) {
+            int at = chains[chain];
+            for (int left = count; left > 0 && at >= 0; left--) {
+                if (keys[at] == key && words[at] == word) {
+                    return at;
+                }
+                at = links[at];
+            }
+            return NONE;
         }
     }
 
@@ -618,6 +628,7 @@ public final class LinearHistories {
         final long[] ways = new long[MOST_POSSIBILITIES];
         /** Those from which an end can be reached. */
         final boolean[] hopeful = new boolean[MOST_POSSIBILITIES];
+        boolean hopeMarked;
         int count;
         int returned;
         boolean own;
@@ -627,6 +638,7 @@ public final class LinearHistories {
             count = newCount;
             returned = newReturned;
             own = newOwn;
+            hopeMarked = false;
             table.makeEmpty();
             table.keep(0, 0);
             ways[0] = 1;
@@ -669,7 +681,7 @@ public final class LinearHistories {
             if (!step(subject, from, place)) {
                 return NONE;
             }
-            return table.numberOf(keyBehind(from, place), state.word);
+            return table.find(keyBehind(from, place), state.word);
         }
 
         boolean isEnd(int possibility) {
@@ -698,6 +710,10 @@ public final class LinearHistories {
 
         /** Goes backwards, as each step leads to a possibility with a higher number. */
         void markHopeful(Subject subject) {
+            if (hopeMarked) {
+                return;
+            }
+            hopeMarked = true;
             for (int from = table.count - 1; from >= 0; from--) {
                 boolean hope = isEnd(from);
                 for (int place = 0; place < count && !hope; place++) {

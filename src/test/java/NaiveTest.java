@@ -1,3 +1,5 @@
+import java.util.Arrays;
+import java.util.List;
 import java.util.Random;
 import java.util.function.LongSupplier;
 
@@ -70,7 +72,7 @@ public final class NaiveTest {
                 wrongCall();
             } else if (random.nextInt(150) == 0) {
                 same("clear()", program::clear, naive::clear);
-                java.util.Arrays.fill(running, null);
+                Arrays.fill(running, null);
                 makeObject(random.nextInt(6));
             } else if (random.nextInt(60) == 0) {
                 makeObject(random.nextInt(6));
@@ -112,23 +114,31 @@ public final class NaiveTest {
         } else {
             int result = lies != 0 && random.nextInt(lies) == 0 ? someNumber(numbers) : op.result;
             running[process] = null;
-            same("back(" + process + ", " + result + ")", () -> {
-                program.back(process, result);
-                return 0;
-            }, () -> {
-                naive.back(process, result);
-                return 0;
-            });
+            sameBack(process, result);
         }
     }
 
     private void loseIt(int process) {
         running[process] = null;
+        sameLose(process);
+    }
+
+    private void sameLose(int process) {
         same("lose(" + process + ")", () -> {
             program.lose(process);
             return 0;
         }, () -> {
             naive.lose(process);
+            return 0;
+        });
+    }
+
+    private void sameBack(int process, int result) {
+        same("back(" + process + ", " + result + ")", () -> {
+            program.back(process, result);
+            return 0;
+        }, () -> {
+            naive.back(process, result);
             return 0;
         });
     }
@@ -189,20 +199,8 @@ public final class NaiveTest {
         if (process >= 0 && process < 8 && running[process] != null) {
             return;
         }
-        same("lose(" + process + ")", () -> {
-            program.lose(process);
-            return 0;
-        }, () -> {
-            naive.lose(process);
-            return 0;
-        });
-        same("back(" + process + ", 0)", () -> {
-            program.back(process, 0);
-            return 0;
-        }, () -> {
-            naive.back(process, 0);
-            return 0;
-        });
+        sameLose(process);
+        sameBack(process, 0);
     }
 
     private void ask(int object, int question) {
@@ -264,7 +262,7 @@ public final class NaiveTest {
         if (!linear.equals("1")) {
             return;
         }
-        java.util.List<int[]> row = naive.wholeRow();
+        List<int[]> row = naive.wholeRow();
         for (int i = 0; i < Integer.parseInt(length); i++) {
             int at = i;
             same("row(" + i + ")", () -> program.row(at), () -> row.get(at)[0]);

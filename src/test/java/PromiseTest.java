@@ -218,7 +218,17 @@ public final class PromiseTest {
         CHECK.due("6: linear again", x.linear(), 1);
         CHECK.due("6: its row", x.length(), 2);
         CHECK.due("6: clear again", x.clear(), 4);
+        CHECK.due("6: no row", x.length(), 0);
         CHECK.due("6: and again", x.clear(), 0);
+        x.object(REGISTER);
+        sequential(x, 0, 0, 0, 0, 0, 1);
+        sequential(x, 0, 0, 1, 1, 0, 0);
+        CHECK.due("6: broken at once", x.broken(0), 2);
+        x.clear();
+        x.object(REGISTER);
+        sequential(x, 0, 0, 0, 0, 0, 1);
+        sequential(x, 0, 0, 1, 1, 0, 0);
+        CHECK.due("6: and once more", x.broken(0), 2);
     }
 
     // Promise 7
@@ -490,6 +500,12 @@ public final class PromiseTest {
         CHECK.due("12: 0, 2, 3, 5, 7, 8, 10", x.lasts(1), 7);
         x.back(3, 0);
         CHECK.due("12: 5, 7, 8, 10", x.lasts(1), 4);
+        LinearHistories y = with(REGISTER);
+        y.call(0, 0, 4, Integer.MAX_VALUE, 0);
+        y.call(1, 0, 4, 1, 0);
+        y.call(2, 0, 4, -1, 0);
+        CHECK.due("12: sums that wrap are the same", y.lasts(0), 6);
+        CHECK.due("8: sums that wrap are the same", y.possibilities(0), 8);
         CHECK.dueThrow("12: object -1", ARGUMENT, () -> x.lasts(-1));
         CHECK.dueThrow("12: object 2", ARGUMENT, () -> x.lasts(2));
     }
