@@ -4,13 +4,10 @@ import java.util.function.LongSupplier;
 final class Check {
     private int wrong = 0;
     private int looked = 0;
+    private String words = "";
 
     void due(String what, long got, long want) {
-        looked++;
-        if (got != want) {
-            wrong++;
-            System.out.println(what + " answered " + got + ", due is " + want);
-        }
+        same(what, "" + got, "" + want);
     }
 
     void isTrue(String what, boolean holds) {
@@ -18,17 +15,37 @@ final class Check {
     }
 
     void dueThrow(String what, Class<? extends RuntimeException> want, LongSupplier call) {
-        String got;
-        try {
-            got = "" + call.getAsLong();
-        } catch (RuntimeException e) {
-            got = e.getClass().getName();
-        }
+        same(what, outcome(call), want.getName());
+    }
+
+    void same(String what, String got, String want) {
         looked++;
-        if (!got.equals(want.getName())) {
+        if (!got.equals(want)) {
             wrong++;
-            System.out.println(what + " answered " + got + ", due is " + want.getName());
+            System.out.println(words + what + " answered " + got + ", due is " + want);
         }
+    }
+
+    /** What the call answers, or the name of what it throws. */
+    static String outcome(LongSupplier call) {
+        try {
+            return "" + call.getAsLong();
+        } catch (RuntimeException e) {
+            return e.getClass().getName();
+        }
+    }
+
+    /** A test of one sentence of the document, which fails alone. */
+    void sentence(String sentence, Runnable test) {
+        int before = looked;
+        words = "\"" + sentence + "\": ";
+        try {
+            test.run();
+        } catch (RuntimeException e) {
+            same("the test", e.toString(), "no exception");
+        }
+        isTrue("the test looks at something", looked > before);
+        words = "";
     }
 
     void end() {

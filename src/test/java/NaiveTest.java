@@ -36,17 +36,9 @@ public final class NaiveTest {
         check.end();
     }
 
-    private static String outcome(LongSupplier call) {
-        try {
-            return "" + call.getAsLong();
-        } catch (RuntimeException e) {
-            return e.getClass().getName();
-        }
-    }
-
     private String same(String what, LongSupplier got, LongSupplier want) {
-        String g = outcome(got);
-        String w = outcome(want);
+        String g = Check.outcome(got);
+        String w = Check.outcome(want);
         story.append(what).append(" = ").append(w).append('\n');
         if (!g.equals(w)) {
             System.out.println(story);

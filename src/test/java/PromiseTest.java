@@ -1,14 +1,5 @@
 /** Each promise of the document, with ordinary inputs, its edges, and wrong inputs. */
-public final class PromiseTest {
-    private static final int NOTHING = LinearHistories.NOTHING;
-    private static final int NONE = LinearHistories.NONE, MANY = LinearHistories.MANY;
-    private static final int REGISTER = 0, QUEUE = 1, STACK = 2, SET = 3, HEAP = 4, MAP = 5;
-    private static final Class<IllegalArgumentException> ARGUMENT = IllegalArgumentException.class;
-    private static final Class<IllegalStateException> STATE = IllegalStateException.class;
-    private static final Class<IndexOutOfBoundsException> BOUNDS = IndexOutOfBoundsException.class;
-
-    private static final Check CHECK = new Check();
-
+public final class PromiseTest extends Histories {
     public static void main(String[] args) {
         newObject();
         objects();
@@ -39,34 +30,6 @@ public final class PromiseTest {
         rowsOfSeveral();
         rowsChange();
         CHECK.end();
-    }
-
-    private static LinearHistories with(int... kinds) {
-        LinearHistories x = new LinearHistories();
-        for (int kind : kinds) {
-            x.object(kind);
-        }
-        return x;
-    }
-
-    private static void sequential(LinearHistories x, int process, int object, int code, int a, int b, int result) {
-        x.call(process, object, code, a, b);
-        x.back(process, result);
-    }
-
-    private static void lost(LinearHistories x, int process, int object, int code, int a, int b) {
-        x.call(process, object, code, a, b);
-        x.lose(process);
-    }
-
-    private static long back(LinearHistories x, int process, int result) {
-        x.back(process, result);
-        return 0;
-    }
-
-    private static long lose(LinearHistories x, int process) {
-        x.lose(process);
-        return 0;
     }
 
     // Promise 1
@@ -340,25 +303,8 @@ public final class PromiseTest {
         CHECK.dueThrow("8: object 1", ARGUMENT, () -> x.possibilities(1));
     }
 
-    /** Reads of a register: a lost one doubles the possibilities, others add half-done ones. */
-    private static LinearHistories atLimit(boolean oneMore) {
-        LinearHistories x = with(REGISTER);
-        if (oneMore) {
-            sequential(x, 0, 0, 0, 0, 0, 0);
-        }
-        for (int i = 0; i <= 10; i++) {
-            if (i == 4 || i >= 6 && i <= 9) {
-                sequential(x, 0, 0, 0, 0, 0, 0);
-            }
-            if (i < 10) {
-                lost(x, 0, 0, 0, 0, 0);
-            }
-        }
-        return x;
-    }
-
     private static void possibilityEdge() {
-        LinearHistories x = atLimit(false);
+        LinearHistories x = LimitHistories.of2000();
         CHECK.due("8: 2000 possibilities", x.possibilities(0), 2000);
         CHECK.due("9: 2000 possibilities", x.judge(0), 1);
         CHECK.due("12: 2000 possibilities", x.lasts(0), 1);
@@ -366,7 +312,7 @@ public final class PromiseTest {
         CHECK.due("14: 2000 possibilities", x.linear(), 1);
         CHECK.due("15: 2000 possibilities", x.length(), 14);
         CHECK.isTrue("11: 2000 possibilities", x.ways(0) > 0);
-        LinearHistories y = atLimit(true);
+        LinearHistories y = LimitHistories.of2001();
         CHECK.due("8: 2001 possibilities", y.possibilities(0), MANY);
         CHECK.due("9: 2001 possibilities", y.judge(0), MANY);
         CHECK.due("10: but few in its own order", y.judgeOwn(0), 1);
@@ -426,13 +372,8 @@ public final class PromiseTest {
     }
 
     private static void ownEdge() {
-        int[] lengths = {4, 4, 4, 1, 1, 1, 1};
-        LinearHistories x = with(REGISTER, REGISTER);
-        for (int process = 0; process < 7; process++) {
-            for (int i = 0; i < lengths[process]; i++) {
-                sequential(x, process, 0, 0, 0, 0, 0);
-            }
-        }
+        LinearHistories x = LimitHistories.own2000();
+        x.object(REGISTER);
         CHECK.due("10: 5 * 5 * 5 * 2 * 2 * 2 * 2 possibilities", x.judgeOwn(0), 1);
         for (int i = 0; i < 16; i++) {
             sequential(x, i % 8, 1, 0, 0, 0, 0);
@@ -571,21 +512,6 @@ public final class PromiseTest {
         CHECK.dueThrow("16: not linear, and no place", STATE, () -> x.row(-1));
         CHECK.dueThrow("17: not linear", STATE, () -> x.result(0));
         CHECK.dueThrow("17: not linear, and no place", STATE, () -> x.result(99));
-    }
-
-    private static void dueRow(String what, LinearHistories x, int[] numbers, int[] results) {
-        CHECK.due(what + " length", x.length(), numbers.length);
-        for (int i = 0; i < numbers.length; i++) {
-            CHECK.due(what + " row " + i, x.row(i), numbers[i]);
-            CHECK.due(what + " result " + i, x.result(i), results[i]);
-        }
-        int behind = numbers.length;
-        CHECK.dueThrow(what + " row behind", BOUNDS, () -> x.row(behind));
-        CHECK.dueThrow(what + " result behind", BOUNDS, () -> x.result(behind));
-        CHECK.dueThrow(what + " row -1", BOUNDS, () -> x.row(-1));
-        CHECK.dueThrow(what + " result -1", BOUNDS, () -> x.result(-1));
-        CHECK.dueThrow(what + " row far away", BOUNDS, () -> x.row(Integer.MIN_VALUE));
-        CHECK.dueThrow(what + " result far away", BOUNDS, () -> x.result(Integer.MAX_VALUE));
     }
 
     // Promises 15, 16 and 17
